@@ -202,29 +202,18 @@ public final class SpacedPairs {
         if (!problem.hasPosition(position)) {
             return NO_SUCH;
         }
-        return optionsAt(position);
+        return searched().differencesAt(position);
     }
 
     public int forced() {
+        Arrangements all = searched();
         int forced = 0;
         for (int position = 0; position < problem.length; position++) {
-            if (Integer.bitCount(optionsAt(position)) == 1) {
+            if (Integer.bitCount(all.differencesAt(position)) == 1) {
                 forced |= 1 << position;
             }
         }
         return forced;
-    }
-
-    private int optionsAt(int position) {
-        if (!problem.isFree(position)) {
-            return 0;
-        }
-        int size = searched().size;
-        int options = 0;
-        for (int number = 0; number < size; number++) {
-            options |= 1 << found.valueAt(number, position);
-        }
-        return options;
     }
 
     /** The arrangements of the problem as it is now. */
@@ -280,14 +269,14 @@ public final class SpacedPairs {
         if (!padIsRow()) {
             return BAD_TEXT;
         }
-        return matchOf(0);
+        return matchOf(searched(), 0);
     }
 
     public int match(int index) {
         if (pad.indexOf(Pad.FAULTY) >= 0) {
             return BAD_TEXT;
         }
-        return index == -1 ? matches() : matchOf(index);
+        return matchOf(searched(), index);
     }
 
     public int spell(int number) {
@@ -326,58 +315,41 @@ public final class SpacedPairs {
 
     private boolean breaks(int rule, int position) {
         int difference = pad.valueAt(position);
-        int pin = problem.pinAt(position);
-        if (rule == 5) {
-            return pin != 0 && pin != difference;
-        }
         boolean isHole = difference == 0;
-        if (rule == 1) {
-            return isHole == problem.isFree(position);
-        }
-        if (isHole) {
-            return false;
-        }
+        int pin = problem.pinAt(position);
         switch (rule) {
-            case 2: return !problem.hasDifference(difference);
-            case 3: return pad.timesBefore(position, difference) >= 2;
-            case 4: return pad.valueAt(position - difference) != difference
+            case 1: return isHole == problem.isFree(position);
+            case 2: return !isHole && !problem.hasDifference(difference);
+            case 3: return !isHole && pad.timesBefore(position, difference) >= 2;
+            case 4: return !isHole
+                && pad.valueAt(position - difference) != difference
                 && pad.valueAt(position + difference) != difference;
+            case 5: return pin != 0 && pin != difference;
             default: return false;
         }
     }
 
-    private int matches() {
-        int size = searched().size;
+    /** The arrangement with this index among those that match the pad, their number for -1. */
+    private int matchOf(Arrangements all, int index) {
         int matches = 0;
-        for (int number = 0; number < size; number++) {
-            if (isMatch(number)) {
-                matches++;
-            }
-        }
-        return matches;
-    }
-
-    private int matchOf(int index) {
-        int size = searched().size;
-        int matches = 0;
-        for (int number = 0; number < size; number++) {
-            if (isMatch(number)) {
+        for (int number = 0; number < all.size; number++) {
+            if (isMatch(all, number)) {
                 if (matches == index) {
                     return number;
                 }
                 matches++;
             }
         }
-        return NONE;
+        return index == -1 ? matches : NONE;
     }
 
-    private boolean isMatch(int number) {
+    private boolean isMatch(Arrangements all, int number) {
         if (pad.length != problem.length) {
             return false;
         }
         for (int position = 0; position < problem.length; position++) {
             int value = pad.valueAt(position);
-            if (value != Pad.ANYTHING && value != found.valueAt(number, position)) {
+            if (value != Pad.ANYTHING && value != all.valueAt(number, position)) {
                 return false;
             }
         }
@@ -791,6 +763,15 @@ public final class SpacedPairs {
                 }
             }
             return 0;
+        }
+
+        /** The differences that come at a position; a hole has none. */
+        int differencesAt(int position) {
+            int come = 0;
+            for (int number = 0; number < size; number++) {
+                come |= 1 << valueAt(number, position);
+            }
+            return come & ~1;
         }
 
         int distanceOf(int one, int other) {
