@@ -432,7 +432,10 @@ public final class SpacedPairs {
         int seen = 0;
         int greatest = 0;
         for (int difference = 1; difference <= GREATEST_DIFFERENCE; difference++) {
-            for (int what = 0; what <= 2 && problem.hasDifference(difference); what++) {
+            if (!problem.hasDifference(difference)) {
+                continue;
+            }
+            for (int what = 0; what <= 2; what++) {
                 int next = tripleNumber(number, difference, what);
                 if (contains(seen, next)) {
                     return 0;
@@ -456,11 +459,14 @@ public final class SpacedPairs {
     }
 
     public int omissions() {
-        int pairs = problem.pairs();
+        int others = problem.pairs() - 1;
+        if (others == 0) {
+            return 0;
+        }
         int omissions = 0;
-        for (int omitted = 1; omitted <= GREATEST_DIFFERENCE && pairs > 1; omitted++) {
+        for (int omitted = 1; omitted <= GREATEST_DIFFERENCE; omitted++) {
             if (problem.hasDifference(omitted)
-                && isSolvable(2 * (pairs - 1), 0, problem.differences & ~(1 << omitted))) {
+                && isSolvable(2 * others, 0, problem.differences & ~(1 << omitted))) {
                 omissions |= 1 << omitted;
             }
         }

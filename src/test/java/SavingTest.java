@@ -29,6 +29,7 @@ public final class SavingTest {
         x.pin(0, 0);
         due("count() without the pin", x.count(), 6);
         due("restore(0) again", x.restore(0), 8);
+        due("count() at once", x.count(), 2);
         CHECKS.dueText("the slot keeps it", Checks.stateOf(x), saved);
         due("count() after restore(0) again", x.count(), 2);
         due("restore(1)", x.restore(1), 7);

@@ -45,6 +45,8 @@ public final class TextsTest {
         due("fault() of all signs", x.fault(), SpacedPairs.NONE);
         Checks.sayAll(x, "h");
         due("fault() of h", x.fault(), SpacedPairs.NONE);
+        Checks.sayAll(x, "0");
+        due("fault() at the front", x.fault(), 0);
         for (int code = 33; code <= 126; code++) {
             x.wipe();
             x.say('1');
@@ -163,9 +165,11 @@ public final class TextsTest {
         x.langford(1, 3, true);
         match(x, "?????.?", 0, 1);
         match(x, "?????1?");
-        Checks.sayAll(x, "?!");
-        for (int index : new int[] {-1, 0, 1, -2, Integer.MAX_VALUE}) {
-            CHECKS.dueUnchanged(x, "match(" + index + ") of ?!", () -> x.match(index), SpacedPairs.BAD_TEXT);
+        for (String text : new String[] {"?!", "!", "!??????", "?????.i"}) {
+            Checks.sayAll(x, text);
+            for (int index : new int[] {-1, 0, 1, -2, Integer.MAX_VALUE}) {
+                CHECKS.dueUnchanged(x, "match(" + index + ") of " + text, () -> x.match(index), SpacedPairs.BAD_TEXT);
+            }
         }
     }
 
