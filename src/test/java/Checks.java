@@ -1,5 +1,3 @@
-import java.util.function.IntSupplier;
-
 /** Counts the answers of a test, prints the wrong ones, and ends the test with its exit code. */
 final class Checks {
     private static final int MOST_PRINTED = 50;
@@ -22,13 +20,6 @@ final class Checks {
         }
     }
 
-    /** A call that fails, or that only asks, answers as is due and changes nothing. */
-    void dueUnchanged(SpacedPairs x, String call, IntSupplier made, int want) {
-        String before = stateOf(x);
-        due(call, made.getAsInt(), want);
-        dueText("the state after " + call, stateOf(x), before);
-    }
-
     boolean hasWrong() {
         return wrong > 0;
     }
@@ -49,7 +40,8 @@ final class Checks {
 
     static String padOf(SpacedPairs x) {
         StringBuilder text = new StringBuilder();
-        for (int i = 0; i < x.problem(5); i++) {
+        int length = x.problem(5);
+        for (int i = 0; i < length; i++) {
             text.append((char) x.letter(i));
         }
         return text.toString();
@@ -58,7 +50,8 @@ final class Checks {
     /** The row of an arrangement as its numbers, one after the other. */
     static String rowOf(SpacedPairs x, int number) {
         StringBuilder row = new StringBuilder();
-        for (int p = 0; p < x.problem(0); p++) {
+        int length = x.problem(0);
+        for (int p = 0; p < length; p++) {
             row.append(p == 0 ? "" : " ").append(x.at(number, p));
         }
         return row.toString();
@@ -70,7 +63,8 @@ final class Checks {
         for (int what = 0; what <= 5; what++) {
             state.append(x.problem(what)).append(' ');
         }
-        for (int p = 0; p < x.problem(0); p++) {
+        int length = x.problem(0);
+        for (int p = 0; p < length; p++) {
             int pin = x.pin(p, 0);
             x.pin(p, pin);
             state.append(pin).append(' ');

@@ -17,11 +17,9 @@ public final class ProblemsTest {
     public static void main(String[] args) {
         newObject();
         set();
-        setRefused();
         langford();
         near();
         pin();
-        pinRefused();
         problem();
         CHECKS.finish();
     }
@@ -54,22 +52,6 @@ public final class ProblemsTest {
         due("no pins after set", x.problem(3), 0);
     }
 
-    private static void setRefused() {
-        SpacedPairs x = new SpacedPairs();
-        x.langford(1, 4, false);
-        x.pin(2, 3);
-        x.say('?');
-        int[][] wrong = {
-            {0, 0, 2}, {-1, 0, 2}, {19, 0, 2}, {Integer.MIN_VALUE, 0, 2}, {Integer.MAX_VALUE, 0, 2}, {33, 0, 2},
-            {2, 4, 2}, {2, -1, 2}, {2, Integer.MIN_VALUE, 2}, {18, 1 << 18, 2}, {1, 2, 2},
-            {2, 0, 0}, {2, 0, 1}, {2, 0, 3}, {2, 0, 1 << 18}, {2, 0, -2}, {2, 0, Integer.MIN_VALUE}, {18, 0, 0x1FF << 1},
-        };
-        for (int[] w : wrong) {
-            CHECKS.dueUnchanged(x, "set(" + w[0] + ", " + w[1] + ", " + w[2] + ")",
-                () -> x.set(w[0], w[1], w[2]), SpacedPairs.BAD_VALUE);
-        }
-    }
-
     private static void langford() {
         SpacedPairs x = new SpacedPairs();
         x.pin(0, 1);
@@ -83,13 +65,6 @@ public final class ProblemsTest {
         duePosed(x, "langford(10, 8, true)", 17, 1 << 15, 0xFF << 10);
         due("langford(3, 5, false)", x.langford(3, 5, false), 10);
         duePosed(x, "langford(3, 5, false)", 10, 0, 0x1F << 3);
-        x.pin(3, 4);
-        int[][] wrong = {{0, 1}, {-1, 1}, {11, 1}, {1, 0}, {1, -1}, {1, 9}, {10, 9},
-            {Integer.MIN_VALUE, 1}, {Integer.MAX_VALUE, 1}, {1, Integer.MAX_VALUE}, {1, Integer.MIN_VALUE}};
-        for (int[] w : wrong) {
-            CHECKS.dueUnchanged(x, "langford(" + w[0] + ", " + w[1] + ", true)",
-                () -> x.langford(w[0], w[1], true), SpacedPairs.BAD_VALUE);
-        }
     }
 
     private static void near() {
@@ -105,13 +80,6 @@ public final class ProblemsTest {
         duePosed(x, "near(9, 1, false)", 16, 0, 0x3FC);
         due("near(5, 2, false)", x.near(5, 2, false), 8);
         duePosed(x, "near(5, 2, false)", 8, 0, 0b111010);
-        x.pin(3, 4);
-        int[][] wrong = {{1, 1}, {0, 0}, {10, 1}, {4, 5}, {4, 0}, {4, -1}, {-5, -6}, {9, 33},
-            {Integer.MAX_VALUE, 1}, {Integer.MIN_VALUE, 1}, {4, Integer.MIN_VALUE}, {4, Integer.MAX_VALUE}};
-        for (int[] w : wrong) {
-            CHECKS.dueUnchanged(x, "near(" + w[0] + ", " + w[1] + ", false)",
-                () -> x.near(w[0], w[1], false), SpacedPairs.BAD_VALUE);
-        }
     }
 
     private static void pin() {
@@ -138,19 +106,6 @@ public final class ProblemsTest {
         due("count without it", x.count(), 1);
         for (int d = 1; d <= 17; d++) {
             due("pin(0, " + d + ")", x.pin(0, d), d - 1);
-        }
-    }
-
-    private static void pinRefused() {
-        SpacedPairs x = new SpacedPairs();
-        x.langford(1, 4, false);
-        x.pin(3, 2);
-        for (int p : new int[] {-1, 8, 17, 18, 32, Integer.MIN_VALUE, Integer.MAX_VALUE}) {
-            CHECKS.dueUnchanged(x, "pin(" + p + ", 1)", () -> x.pin(p, 1), SpacedPairs.NO_SUCH);
-            CHECKS.dueUnchanged(x, "pin(" + p + ", 18)", () -> x.pin(p, 18), SpacedPairs.NO_SUCH);
-        }
-        for (int d : new int[] {-1, 18, Integer.MIN_VALUE, Integer.MAX_VALUE}) {
-            CHECKS.dueUnchanged(x, "pin(3, " + d + ")", () -> x.pin(3, d), SpacedPairs.BAD_VALUE);
         }
     }
 

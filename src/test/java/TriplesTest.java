@@ -71,9 +71,9 @@ public final class TriplesTest {
         due("hooks() of 1 to 4", x.hooks(), 0b101010101);
         x.pin(0, 9);
         x.pin(3, 3);
-        CHECKS.dueUnchanged(x, "hooks() with pins", () -> x.hooks(), 0b101010101);
+        due("hooks() with pins", x.hooks(), 0b101010101);
         x.set(18, 0x3F0F0, 0b11110);
-        CHECKS.dueUnchanged(x, "hooks() with another length", () -> x.hooks(), 0b101010101);
+        due("hooks() with another length", x.hooks(), 0b101010101);
         x.langford(1, 8, false);
         due("hooks() of 1 to 8", x.hooks(), 0x15555);
         due("count() after hooks()", x.count(), 504);
@@ -91,9 +91,9 @@ public final class TriplesTest {
         x.langford(1, 4, false);
         due("omissions() of 1 to 4", x.omissions(), 0b1010);
         x.pin(0, 9);
-        CHECKS.dueUnchanged(x, "omissions() with pins", () -> x.omissions(), 0b1010);
+        due("omissions() with pins", x.omissions(), 0b1010);
         x.set(18, 0x3F0F0, 0b11110);
-        CHECKS.dueUnchanged(x, "omissions() with another length", () -> x.omissions(), 0b1010);
+        due("omissions() with another length", x.omissions(), 0b1010);
         x.langford(1, 8, false);
         due("omissions() of 1 to 8", x.omissions(), 170);
         due("count() after omissions()", x.count(), 504);
