@@ -258,10 +258,12 @@ final class AmongEdges {
 
     private void stepsNone() {
         e.sentence(28, "NONE if it cannot be reached by arrangements with numbers less than 300");
-        e.unchanged(AmongEdges::oneToEight, "steps(0, 1), where 0 has no neighbours", x -> x.steps(0, 1), NONE);
-        e.unchanged(AmongEdges::oneToEight, "steps(1, 0)", x -> x.steps(1, 0), NONE);
-        e.unchanged(AmongEdges::oneToEight, "steps(1, 2), which only others would lead to", x -> x.steps(1, 2), NONE);
-        e.due("steps(2, 26), which others would make 9", oneToEight().steps(2, 26), 15);
+        e.unchanged(AmongEdges::oneToEight, "steps(0, 1), where 0 has no neighbours", y -> y.steps(0, 1), NONE);
+        e.unchanged(AmongEdges::oneToEight, "steps(1, 0)", y -> y.steps(1, 0), NONE);
+        e.unchanged(AmongEdges::oneToEight, "steps(1, 2), which only others would lead to", y -> y.steps(1, 2), NONE);
+        SpacedPairs x = oneToEight();
+        e.due("steps(2, 26), which others would make 9", x.steps(2, 26), 15);
+        e.due("steps(0, 26) after a longer way was walked", x.steps(0, 26), NONE);
         e.due("steps(0, 299) of 504", oneToEight().steps(0, 299), NONE);
     }
 
