@@ -61,7 +61,7 @@ final class ArrangementEdges {
     }
 
     private void order() {
-        e.sentence(0, "The arrangements are numbered from 0 in the lexicographic order of their rows.");
+        e.sentence("Description", "The arrangements are numbered from 0 in the lexicographic order of their rows");
         SpacedPairs x = Made.langford(1, 4, false);
         String[] rows = {"1 1 3 4 2 3 2 4", "1 1 4 2 3 2 4 3", "2 3 2 4 3 1 1 4",
             "3 4 2 3 2 4 1 1", "4 1 1 3 4 2 3 2", "4 2 3 2 4 3 1 1"};

@@ -1,7 +1,11 @@
 import java.io.IOException;
 import java.nio.file.Files;
 import java.nio.file.Path;
+import java.util.ArrayList;
+import java.util.LinkedHashMap;
 import java.util.LinkedHashSet;
+import java.util.List;
+import java.util.Map;
 import java.util.Set;
 import java.util.function.Supplier;
 import java.util.function.ToIntFunction;
@@ -11,59 +15,82 @@ import java.util.stream.IntStream;
 
 /**
  * Tests the document sentence by sentence. A test begins with the words that it tests, which must stand
- * in the document; in the end no sentence of the promises may be left without answers.
+ * in the document; in the end no sentence of the document may be left without answers, unless it is said
+ * to promise nothing.
  */
 final class Edges {
-    private static final int DESCRIPTION = 0;
-
     private final Checks checks = new Checks();
-    private final String description;
     private final Set<String> untested = new LinkedHashSet<>();
     private final Set<String> tested = new LinkedHashSet<>();
+    private final Set<String> free = new LinkedHashSet<>();
+    private final Map<String, List<String>> sections = new LinkedHashMap<>();
     private String now = "";
     private int answersNow = 1;
 
     /** Reads the document; the tests are run in the project's folder. */
     Edges() throws IOException {
-        String[] sections = Files.readString(Path.of("../shared/DOC.md")).split("(?m)^## ");
-        String found = "";
-        for (String section : sections) {
-            Matcher heading = Pattern.compile("Promise (\\d+):").matcher(section);
-            if (heading.lookingAt()) {
-                addSentences(Integer.parseInt(heading.group(1)), section);
-            } else if (section.startsWith("Description")) {
-                found = section;
+        for (String section : Files.readString(Path.of("../shared/DOC.md")).split("(?m)^## ")) {
+            String[] lines = section.split("\n");
+            String name = nameOf(lines[0]);
+            List<String> parts = new ArrayList<>();
+            for (int i = 1; i < lines.length; i++) {
+                parts.addAll(partsOf(lines[i].trim()));
             }
-        }
-        description = found;
-    }
-
-    private void addSentences(int promise, String section) {
-        String[] lines = section.split("\n");
-        for (int i = 1; i < lines.length; i++) {
-            String line = lines[i].trim();
-            // The signature, and the heading of a group of promises, promise nothing by themselves.
-            if (!line.isEmpty() && !line.startsWith("`") && !line.startsWith("----")) {
-                for (String words : line.split("[;.]( |$)")) {
-                    untested.add(label(promise, words));
-                }
-            }
+            sections.put(name, parts);
+            parts.forEach(words -> untested.add(label(name, words)));
         }
     }
 
-    private static String label(int promise, String words) {
-        return "promise " + promise + ", " + words;
+    private static String nameOf(String heading) {
+        Matcher promise = Pattern.compile("Promise (\\d+):.*").matcher(heading);
+        return promise.matches() ? nameOf(Integer.parseInt(promise.group(1))) : heading;
     }
 
-    /** Begins the test of a sentence, or of a part between semicolons; 0 stands for the Description. */
+    static String nameOf(int promise) {
+        return "promise " + promise;
+    }
+
+    /** The sentences of a line, also between semicolons; a rule keeps its number, a line of code is one. */
+    private static List<String> partsOf(String line) {
+        boolean isHeading = line.matches("[A-Z]+\\.|----.*|```.*|\\}");
+        if (line.isEmpty() || isHeading) {
+            return List.of();
+        }
+        if (line.startsWith("`") || line.startsWith("public ")) {
+            return List.of(line);
+        }
+        return List.of(line.split("(?<!^\\d)[;.:]$|(?<!^\\d)[;.] |(?<=\\.\\)) "));
+    }
+
+    private static String label(String section, String words) {
+        return section + ", " + words;
+    }
+
+    /** The sentences of a section in their order. */
+    List<String> sentencesOf(String section) {
+        return sections.getOrDefault(section, List.of());
+    }
+
+    /** Begins the test of a sentence of a promise, or of a part between semicolons. */
     void sentence(int promise, String words) {
+        sentence(nameOf(promise), words);
+    }
+
+    /** The same for a section that is no promise, by its heading. */
+    void sentence(String section, String words) {
         endSentence();
-        now = promise == DESCRIPTION ? "Description, " + words : label(promise, words);
-        boolean stands = promise == DESCRIPTION
-            ? description.contains(words)
-            : untested.remove(now) || tested.contains(now);
+        now = label(section, words);
+        boolean stands = untested.remove(now) || tested.contains(now);
         tested.add(now);
         checks.dueText(now + ": it stands in the document", Boolean.toString(stands), "true");
+    }
+
+    /** Names a sentence that leaves something free, so that no answer could break it. */
+    void promisesNothing(String section, String words) {
+        String label = label(section, words);
+        boolean stands = untested.remove(label);
+        free.add(label);
+        checks.dueText(label + ": it stands in the document", Boolean.toString(stands), "true");
     }
 
     private void endSentence() {
@@ -106,7 +133,7 @@ final class Edges {
     void finish() {
         endSentence();
         checks.dueText("sentences without a test", untested.toString(), "[]");
-        System.out.println(tested.size() + " sentences");
+        System.out.println(tested.size() + " sentences, and " + free.size() + " that promise nothing");
         checks.finish();
     }
 }

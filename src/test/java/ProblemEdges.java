@@ -48,14 +48,16 @@ final class ProblemEdges {
         Made.busy();
         dueNew("SpacedPairs() after another object was used");
 
-        e.sentence(0, "Initially the length is 2, there are no holes, and the only difference is 1.");
+        e.sentence("Description", "Initially the length is 2, there are no holes, and the only difference is 1");
         SpacedPairs x = new SpacedPairs();
         duePosed("SpacedPairs()", x, 2, 0, 1 << 1);
         e.due("the last position", x.at(0, 1), 1);
         e.due("the first that is none", x.at(0, 2), NO_SUCH);
 
-        e.sentence(0, "A position has at most one pin; initially there are none.");
+        e.sentence("Description", "initially there are none");
         dueNoPins("SpacedPairs()", new SpacedPairs());
+
+        e.sentence("Description", "A position has at most one pin");
         x = Made.pinned(Made.pinned(new SpacedPairs(), 0, 2), 0, 1);
         e.due("count() when the second pin took the first one's place", x.count(), 1);
         e.due("pin(0, 0)", x.pin(0, 0), 1);
@@ -332,7 +334,7 @@ final class ProblemEdges {
         e.due("pin(0, 0) on none", x.pin(0, 0), 0);
         e.due("pin(1, 0) on 3", x.pin(1, 0), 3);
 
-        e.sentence(0, "(So there are none if the number of free positions is not twice that of the differences, or a pin is"
+        e.sentence("Description", "(So there are none if the number of free positions is not twice that of the differences, or a pin is"
             + " at a hole or has a difference that the problem does not have.)");
         e.due("one position too few", Made.set(7, 0, 0b11110).count(), 0);
         e.due("one position too many", Made.set(9, 0, 0b11110).count(), 0);

@@ -63,10 +63,6 @@ final class TextEdges {
         e.dueText("the full pad", Checks.padOf(x), FULL);
         x.wipe();
         e.due("say() after wipe()", x.say('~'), 1);
-
-        e.sentence(0, "The pad is a text of at most 18 characters");
-        e.due("say() of the 18th", saying(FULL.substring(1)).say('a'), 18);
-        e.due("say() of the 19th", saying(FULL).say('a'), SpacedPairs.NOT_POSSIBLE);
     }
 
     private void sayRefused() {
@@ -130,7 +126,10 @@ final class TextEdges {
     }
 
     private void signs() {
-        e.sentence(0, "\".\" stands for a hole, \"1\" to \"9\" and \"a\" to \"h\" for the differences 1 to 17, and \"?\" for anything.");
+        e.sentence("Description", "The pad is a text of at most 18 characters that describes a row or a pattern: \".\" stands for a hole,"
+            + " \"1\" to \"9\" and \"a\" to \"h\" for the differences 1 to 17, and \"?\" for anything");
+        e.due("say() of the 18th", saying(FULL.substring(1)).say('a'), 18);
+        e.due("say() of the 19th", saying(FULL).say('a'), SpacedPairs.NOT_POSSIBLE);
         for (int code = 33; code <= 126; code++) {
             boolean isSign = code == '.' || code == '?' || code >= '1' && code <= '9' || code >= 'a' && code <= 'h';
             SpacedPairs x = new SpacedPairs();
@@ -179,7 +178,7 @@ final class TextEdges {
     }
 
     private void rulesOneToThree() {
-        e.sentence(0, "1. The holes of the row are just the holes of the problem.");
+        e.sentence("Description", "1. The holes of the row are just the holes of the problem");
         SpacedPairs x = Made.langford(1, 3, true);
         dueJudged(x, "11232.3", 0, NONE);
         dueJudged(x, "1123213", 1, 5);
@@ -189,14 +188,14 @@ final class TextEdges {
         dueJudged(x, "1123233", 1, 5);
         dueJudged(x, ".......", 1, 0);
 
-        e.sentence(0, "2. Each difference in the row is one of the problem.");
+        e.sentence("Description", "2. Each difference in the row is one of the problem");
         dueJudged(x, "41232.3", 2, 0);
         dueJudged(x, "11232.h", 2, 6);
         dueJudged(x, "11292.9", 2, 3);
         dueJudged(Made.longest(), "g................h", 2, 0);
         dueJudged(Made.set(2, 0, 1 << 17), "12", 2, 0);
 
-        e.sentence(0, "3. No difference comes more than twice (broken at the third place at which it comes, and at later ones).");
+        e.sentence("Description", "3. No difference comes more than twice (broken at the third place at which it comes, and at later ones)");
         dueJudged(x, "11122.3", 3, 2);
         dueJudged(x, "11112.3", 3, 2);
         dueJudged(x, "13132.1", 3, 6);
@@ -207,7 +206,7 @@ final class TextEdges {
     }
 
     private void rulesFourAndFive() {
-        e.sentence(0, "4. A difference that comes at a position p comes at p - d or at p + d, too.");
+        e.sentence("Description", "4. A difference that comes at a position p comes at p - d or at p + d, too");
         SpacedPairs x = Made.langford(1, 3, true);
         dueJudged(x, "12132.3", 4, 0);
         dueJudged(x, "11223.3", 4, 2);
@@ -218,7 +217,7 @@ final class TextEdges {
         dueJudged(Made.set(18, 0x3FFFF & ~(1 << 16 | 1), 1 << 17), "h...............h.", 4, 0);
         dueJudged(Made.set(18, 0x3FFFF & ~(1 << 17 | 2), 1 << 17), ".h...............h", 4, 1);
 
-        e.sentence(0, "5. A pinned position has the difference of its pin.");
+        e.sentence("Description", "5. A pinned position has the difference of its pin");
         x = Made.pinned(Made.langford(1, 3, true), 6, 3);
         dueJudged(x, "11232.3", 0, NONE);
         dueJudged(Made.pinned(x, 6, 2), "11232.3", 5, 6);
@@ -230,7 +229,7 @@ final class TextEdges {
     }
 
     private void firstRule() {
-        e.sentence(0, "the verdict is the number of the first one that is broken at some position, and its place is the lowest position"
+        e.sentence("Description", "the verdict is the number of the first one that is broken at some position, and its place is the lowest position"
             + " at which it is broken");
         SpacedPairs x = Made.pinned(Made.langford(1, 3, true), 0, 9);
         dueJudged(x, "411122.", 1, 5);
@@ -336,8 +335,8 @@ final class TextEdges {
         dueMatching(Made.longest(), "h?".repeat(9));
         dueMatching(Made.longest(), "g" + "?".repeat(17));
 
-        e.sentence(0, "An arrangement matches a pattern if the text is as long as its row, and each character other than \"?\" stands for"
-            + " what the row has at this position.");
+        e.sentence("Description", "An arrangement matches a pattern if the text is as long as its row, and each character other than \"?\" stands for"
+            + " what the row has at this position");
         dueMatching(Made.busy(), "");
         dueMatching(Made.busy(), "???????");
         dueMatching(Made.busy(), "?????????");

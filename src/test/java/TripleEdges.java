@@ -108,7 +108,7 @@ final class TripleEdges {
     }
 
     private void coverRefused() {
-        e.sentence(0, "The triples of an arrangement are a cover if no number comes twice in them (neither in two of them nor twice in one).");
+        e.sentence("Description", "The triples of an arrangement are a cover if no number comes twice in them (neither in two of them nor twice in one)");
         e.due("none comes twice", Made.set(3, 1, 2).cover(0), 4);
         e.due("twice in one", Made.set(3, 2, 4).cover(0), 0);
         e.due("in two of them", Made.set(5, 8, 0b10010).cover(0), 0);
